@@ -870,9 +870,7 @@ public final class CoatRings {
             Arrays.fill(gone, UNSEEN);
             heap.size = 0;
             chooseInns();
-            int start = Rows.rank(now.table);
-            see(start, now.table, 0);
-            mark(start, UNSEEN, 0, 0);
+            reach(UNSEEN, 0, now.table, 0);
             for (int k = 0; k < TABLES && heap.size > 0; k++) {
                 int table = heap.take();
                 if (heap.keys[table] > limit) {
@@ -881,10 +879,12 @@ public final class CoatRings {
                 if (Rows.areOwn(rows[table], bound)) {
                     arrive(table);
                 } else {
-                    goOn(table);
+                    goByPairs(table);
+                    goByInns(table);
+                    goByPosts(table);
                 }
             }
-            tell(start);
+            tell();
             known = true;
         }
 
@@ -906,17 +906,55 @@ public final class CoatRings {
             }
         }
 
-        private void see(int table, int row, int label) {
-            rows[table] = row;
-            gone[table] = label;
-            heap.add(table, label + MILE * night.farFromOwners(row, bound));
+        private void goByPairs(int table) {
+            for (int one = 0; one < night.people; one++) {
+                for (int other = one + 1; other < night.people; other++) {
+                    int label = gone[table] + MILE * 2 * night.far(one, other) + 1;
+                    if (((night.wont >> one | night.wont >> other) & 1) == 0 && label <= limit) {
+                        reach(table, Meetings.pair(one, other), Rows.swapped(rows[table], one, other), label);
+                    }
+                }
+            }
         }
 
-        private void mark(int table, int before, int meeting, int label) {
+        private void goByInns(int table) {
+            for (int set = 3; set <= night.all(); set++) {
+                int label = gone[table] + MILE * innMiles[set] + 1;
+                if (innMeeting[set] != 0 && label <= limit) {
+                    reach(table, innMeeting[set], Rows.settled(rows[table], set), label);
+                }
+            }
+        }
+
+        private void goByPosts(int table) {
+            for (int one = 0; one < night.people; one++) {
+                int ring = Rows.ring(rows[table], one);
+                if (Rows.isLeast(ring, one) && Integer.bitCount(ring) > 1 && (ring & night.wont) == 0) {
+                    int label = gone[table] + MILE * night.rate * night.farFromOwners(rows[table], ring) + 1;
+                    if (label <= limit) {
+                        reach(table, Meetings.post(one), Rows.settled(rows[table], ring), label);
+                    }
+                }
+            }
+        }
+
+        /** A way to a table, which counts if it is the first one there, or goes ahead of the one that is known. */
+        private void reach(int before, int meeting, int row, int label) {
+            int table = Rows.rank(row);
+            int till = gone[table];
+            if (till == UNSEEN) {
+                rows[table] = row;
+                heap.add(table, label + MILE * night.farFromOwners(row, bound));
+            } else if (label < till) {
+                heap.lower(table, heap.keys[table] - till + label);
+            } else if (label > till || !isEarlier(before, meeting, from[table], by[table])) {
+                return;
+            }
             gone[table] = label;
             from[table] = before;
             by[table] = meeting;
-            if (label < limit && Rows.areOwn(rows[table], bound)) {
+            // Where all is well no miles must still be gone: the key is the label.
+            if (label < limit && Rows.areOwn(row, bound)) {
                 limit = label;
             }
         }
@@ -925,61 +963,6 @@ public final class CoatRings {
         private void arrive(int table) {
             if (goal == UNSEEN || isEarlier(from[table], by[table], from[goal], by[goal])) {
                 goal = table;
-            }
-        }
-
-        private void goOn(int table) {
-            for (int one = 0; one < night.people; one++) {
-                for (int other = one + 1; other < night.people; other++) {
-                    if (((night.wont >> one | night.wont >> other) & 1) == 0) {
-                        goByPair(table, one, other);
-                    }
-                }
-            }
-            for (int set = 3; set <= night.all(); set++) {
-                if (innMeeting[set] != 0) {
-                    goByInn(table, set);
-                }
-            }
-            for (int one = 0; one < night.people; one++) {
-                int ring = Rows.ring(rows[table], one);
-                if (Rows.isLeast(ring, one) && Integer.bitCount(ring) > 1 && (ring & night.wont) == 0) {
-                    goByPost(table, one, ring);
-                }
-            }
-        }
-
-        private void goByPair(int table, int one, int other) {
-            int label = gone[table] + MILE * 2 * night.far(one, other) + 1;
-            if (label <= limit) {
-                reach(table, Meetings.pair(one, other), Rows.swapped(rows[table], one, other), label);
-            }
-        }
-
-        private void goByInn(int table, int set) {
-            int label = gone[table] + MILE * innMiles[set] + 1;
-            if (label <= limit) {
-                reach(table, innMeeting[set], Rows.settled(rows[table], set), label);
-            }
-        }
-
-        private void goByPost(int table, int one, int ring) {
-            int label = gone[table] + MILE * night.rate * night.farFromOwners(rows[table], ring) + 1;
-            if (label <= limit) {
-                reach(table, Meetings.post(one), Rows.settled(rows[table], ring), label);
-            }
-        }
-
-        private void reach(int before, int meeting, int row, int label) {
-            int table = Rows.rank(row);
-            if (gone[table] == UNSEEN) {
-                see(table, row, label);
-                mark(table, before, meeting, label);
-            } else if (label < gone[table]) {
-                heap.lower(table, heap.keys[table] - gone[table] + label);
-                mark(table, before, meeting, label);
-            } else if (label == gone[table] && isEarlier(before, meeting, from[table], by[table])) {
-                mark(table, before, meeting, label);
             }
         }
 
@@ -998,11 +981,11 @@ public final class CoatRings {
             return earlier;
         }
 
-        private void tell(int start) {
-            int last = goal == UNSEEN ? start : goal;
-            miles = gone[last] / MILE;
-            meetings = gone[last] % MILE;
-            int table = last;
+        /** All can be made well by pairs, so there is a goal. */
+        private void tell() {
+            int table = goal;
+            miles = table < 0 ? 0 : gone[table] / MILE;
+            meetings = table < 0 ? 0 : gone[table] % MILE;
             for (int k = meetings - 1; k >= 0 && table >= 0; k--) {
                 steps[k] = by[table];
                 table = from[table];
@@ -1020,58 +1003,51 @@ public final class CoatRings {
         /** A table comes once a search at most, so that there is room for all. */
         void add(int table, int key) {
             keys[table] = key;
-            put(size, table);
             size++;
-            rise(places[table]);
+            rise(table, size - 1);
         }
 
         void lower(int table, int key) {
             keys[table] = key;
-            rise(places[table]);
+            rise(table, places[table]);
         }
 
         /** The caller has seen that there is one. */
         int take() {
             int least = tables[0];
             size--;
-            put(0, tables[size]);
-            sink();
+            sink(tables[size]);
             return least;
         }
 
-        private void put(int place, int table) {
+        private void put(int table, int place) {
             tables[place] = table;
             places[table] = place;
         }
 
-        private void exchange(int place, int other) {
-            int table = tables[place];
-            put(place, tables[other]);
-            put(other, table);
-        }
-
-        private void rise(int place) {
-            for (int k = place; k > 0 && keyAt(k) < keyAt((k - 1) / 2); k = (k - 1) / 2) {
-                exchange(k, (k - 1) / 2);
+        private void rise(int table, int free) {
+            int place = free;
+            while (place > 0 && keys[tables[(place - 1) / 2]] > keys[table]) {
+                put(tables[(place - 1) / 2], place);
+                place = (place - 1) / 2;
             }
+            put(table, place);
         }
 
-        private void sink() {
+        /** The top is free. */
+        private void sink(int table) {
             int place = 0;
-            for (int child = 1; child < size; child = 2 * place + 1) {
-                if (child + 1 < size && keyAt(child + 1) < keyAt(child)) {
+            for (int child = 1; child < size; child = 2 * child + 1) {
+                if (child + 1 < size && keys[tables[child + 1]] < keys[tables[child]]) {
                     child++;
                 }
-                if (keyAt(place) <= keyAt(child)) {
-                    return;
+                if (keys[table] <= keys[tables[child]]) {
+                    break;
                 }
-                exchange(place, child);
+                put(tables[child], place);
                 place = child;
             }
-        }
-
-        private int keyAt(int place) {
-            return keys[tables[place]];
+            put(table, place);
         }
     }
 
@@ -1080,30 +1056,31 @@ public final class CoatRings {
         boolean known;
         int days;
         int miles;
-        private int number;
         /** Rows that tell with whom each changes (himself: with nobody); the first is the day when nobody does. */
         private final int[] matchings = new int[MATCHINGS];
         /** Of a matching; below 0 if one is in it who is not there, or won't. */
         private final int[] milesOf = new int[MATCHINGS];
 
         Days() {
-            gather(0, Rows.OWN);
+            gather(matchings, 0, 0, Rows.OWN);
         }
 
-        private void gather(int p, int row) {
-            if (p >= MOST_PEOPLE) {
-                if (number < MATCHINGS) {
-                    matchings[number] = row;
-                    number++;
-                }
-                return;
+        /** All matchings that go on from a row, in which people ahead of p are told, come behind so many: how many then. */
+        private static int gather(int[] into, int number, int p, int row) {
+            if (p >= MOST_PEOPLE || number >= MATCHINGS) {
+                return number;
             }
-            gather(p + 1, row);
+            if (p == MOST_PEOPLE - 1) {
+                into[number] = row;
+                return number + 1;
+            }
+            int so = gather(into, number, p + 1, row);
             for (int q = p + 1; q < MOST_PEOPLE && Rows.at(row, p) == p; q++) {
                 if (Rows.at(row, q) == q) {
-                    gather(p + 1, Rows.swapped(row, p, q));
+                    so = gather(into, so, p + 1, Rows.swapped(row, p, q));
                 }
             }
+            return so;
         }
 
         void reckon(Night night) {

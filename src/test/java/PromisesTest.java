@@ -253,6 +253,10 @@ public final class PromisesTest {
         due("BAD ahead of NOT", x.meet(20004), BAD);
         x.wont(4, false);
         due("by post", x.meet(20003), 5 * (2 + 2));
+        CoatRings y = with(line(3, 1), 1, 2, 0);
+        y.inn(1, 0);
+        due("all at an inn", y.meet(10007), 4);
+        due("well", y.well(), 1);
         due("meetings", x.count(5), 7);
         due("miles", x.count(6), 12 + 12 + 8 + 28 + 24 + 16 + 20);
     }
@@ -321,6 +325,31 @@ public final class PromisesTest {
         plan(z, 38, 102);
         z.inn(5, 10);
         plan(z, 38, 102);
+        ties();
+    }
+
+    /** 0 won't and has 1's, 1 has 2's; 3, 4, 5 at one place have each other's. Either can come first: the pair does. */
+    private static void ties() {
+        CoatRings x = new CoatRings();
+        x.person(0, 0, 0);
+        x.person(1, 0, 0);
+        x.person(4, 0, 0);
+        for (int k = 0; k < 3; k++) x.person(9, 9, 0);
+        with(x, 1, 2, 0, 4, 5, 3);
+        x.wont(0, true);
+        plan(x, 6, 102, 20003);
+        x.inn(9, 9);
+        plan(x, 6, 102, 10056);
+        x.inn(9, 9);
+        plan(x, 6, 102, 10056);
+        x.wont(1, true);
+        x.wont(2, true);
+        plan(x, 0, 10056);
+        x.set(1, 2);
+        plan(x, 0, 20003);
+        x.wont(5, true);
+        // 5 keeps 3's: 4 and 5 are at one place.
+        plan(x, 0, 304);
     }
 
     private static void plan(CoatRings x, int miles, int... numbers) {
@@ -358,6 +387,7 @@ public final class PromisesTest {
         due("type", x.type(97, 0), BAD);
         due("type", x.type(97, 9), BAD);
         due("type", x.type(97, MIN), BAD);
+        due("nine, all of them signs", x.type(0x6161616161616161L, 9), BAD);
         due("type", x.type(31, 1), BAD);
         due("type", x.type(127, 1), BAD);
         due("type", x.type(-1L, 8), BAD);
@@ -575,7 +605,10 @@ public final class PromisesTest {
         x.fear(0, 0, 2);
         // Now 2 1 0 has the lesser sum.
         best(x, 18, 22, 2, 1, 0);
-        due("best", x.best(3), BAD);
+        due("one more comes", x.person(1, 0, 0), 3);
+        // 2 and 3 are at one place: they are at 0 and 2, which are feared twice, 0 is between, 1 where nothing is feared.
+        best(x, 2, 2, 2, 0, 3, 1);
+        due("best", x.best(4), BAD);
         due("best", x.best(-3), BAD);
         due("best", x.best(MAX), BAD);
     }
@@ -624,6 +657,10 @@ public final class PromisesTest {
         lay(x, 1, 0, 2, 1, 3, 0);
         x.likes(0, 1, 6);
         due("one by himself", x.blocks(1, 0, 0), 1);
+        CoatRings w = line(3, 1);
+        lay(w, 0, 0, 0, 1, 2);
+        for (int p = 0; p < 3; p++) w.likes(p, (p + 1) % 3, 6);
+        due("all of them", w.blocks(0, 0, 0), 7);
         due("blocks", x.blocks(4, 0, 0), BAD);
         due("blocks", x.blocks(0, 3, 0), BAD);
         due("blocks", x.blocks(2, 0, 9), NULL);

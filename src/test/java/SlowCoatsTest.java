@@ -201,7 +201,7 @@ public final class SlowCoatsTest {
         int from = args.length > 1 ? Integer.parseInt(args[1]) : 0;
         for (int seed = from; seed < from + runs; seed++) {
             new SlowCoatsTest(seed).run();
-            new SlowCoatsTest(seed + 1000000).plans();
+            for (int k = 1; k <= 4; k++) new SlowCoatsTest(seed + 1000000 * k).plans();
         }
         System.out.println(wrong == 0 ? "all answers are as due" : wrong + " answers are not as due");
         if (wrong != 0) System.exit(1);
