@@ -4,6 +4,8 @@ import java.util.Random;
 
 /** Long mixed runs of calls, each held against SlowCoats. Told seeds, so that each time is like the last. */
 public final class SlowCoatsTest {
+    /** Plans by which a heap that was broken on purpose was found out. */
+    private static final int[] KNOWN_SEEDS = {1100213, 1100748, 1100946, 2100313, 2100958, 3100477};
     private static int wrong = 0;
     private final Random dice;
     private final CoatRings x = new CoatRings();
@@ -196,7 +198,18 @@ public final class SlowCoatsTest {
         due("well()", x.well(), y.well());
     }
 
+    /** A rail of six whose best order is the last of all. */
+    private void lastOrder() {
+        int[][] homes = {{17, 13}, {17, 16}, {10, 15}, {9, 16}, {1, 14}, {13, 0}};
+        int[][] fears = {{2, 3, 4}, {1, 4, 5}, {0, 2, 4}, {2, 1, 3}, {1, 3, 5}, {1, 2, 3}};
+        for (int[] h : homes) due("person", x.person(h[0], h[1], 0), y.person(h[0], h[1], 0));
+        for (int[] f : fears) due("fear", x.fear(f[0], f[1], f[2]), y.fear(f[0], f[1], f[2]));
+        for (int k = -2; k < 6; k++) due("best(" + k + ")", x.best(k), y.best(k));
+    }
+
     public static void main(String[] args) {
+        for (int seed : KNOWN_SEEDS) new SlowCoatsTest(seed).plans();
+        new SlowCoatsTest(0).lastOrder();
         int runs = args.length > 0 ? Integer.parseInt(args[0]) : 40;
         int from = args.length > 1 ? Integer.parseInt(args[1]) : 0;
         for (int seed = from; seed < from + runs; seed++) {
