@@ -1,47 +1,5 @@
 /** Each promise by itself: ordinary inputs, the edges that the document names, wrong inputs. What is due was worked out by hand. */
-public final class PromisesTest {
-    private static final int BAD = -1, NOT = -2, FULL = -3, NONE = -4, NULL = -11, CAST = -12, INDEX = -13, SIZE = -14;
-    private static final int MIN = Integer.MIN_VALUE, MAX = Integer.MAX_VALUE;
-    private static int wrong = 0;
-    private static int promise = 0;
-
-    private static void due(String call, int got, int want) {
-        if (got != want) {
-            wrong++;
-            System.out.println("promise " + promise + ": " + call + " answered " + got + ", due is " + want);
-        }
-    }
-
-    /** People on a line: person k at (k, 0) times step, with marks 1 << k. */
-    private static CoatRings line(int people, int step) {
-        CoatRings x = new CoatRings();
-        for (int k = 0; k < people; k++) due("person", x.person(k * step, 0, 1 << k), k);
-        return x;
-    }
-
-    private static void lay(CoatRings x, int sheet, int lane, int... items) {
-        due("sheet", x.sheet(sheet, lane, items.length), items.length);
-        for (int k = 0; k < items.length; k++) due("item", x.item(sheet, lane, k, items[k]), 1);
-    }
-
-    private static CoatRings with(CoatRings x, int... has) {
-        lay(x, 3, 0, has);
-        int astray = 0;
-        for (int k = 0; k < has.length; k++) astray += has[k] == k ? 0 : 1;
-        due("table", x.table(3, 0, 0), astray);
-        due("drop", x.drop(3), has.length);
-        return x;
-    }
-
-    private static void type(CoatRings x, String text) {
-        for (int k = 0; k < text.length(); k++) x.type(text.charAt(k), 1);
-    }
-
-    private static void facts(CoatRings x, String text, int want) {
-        type(x, text);
-        due("facts of '" + text + "'", x.facts(), want);
-    }
-
+public final class PromisesTest extends Calls {
     private static void p1() {
         CoatRings x = new CoatRings();
         for (int what = 0; what < 8; what++) due("count " + what, x.count(what), 0);
@@ -823,11 +781,10 @@ public final class PromisesTest {
             PromisesTest::p24, PromisesTest::p25, PromisesTest::p26, PromisesTest::p27, PromisesTest::p28,
             PromisesTest::p29and30, PromisesTest::p29and30, PromisesTest::p31, PromisesTest::p32, PromisesTest::p33,
             PromisesTest::p34};
-        for (Runnable one : all) {
-            promise++;
-            one.run();
+        for (int k = 0; k < all.length; k++) {
+            of("promise " + (k + 1));
+            all[k].run();
         }
-        System.out.println(wrong == 0 ? "all answers are as due" : wrong + " answers are not as due");
-        if (wrong != 0) System.exit(1);
+        end();
     }
 }
