@@ -277,6 +277,9 @@ public final class MeetingBoundsTest extends Calls {
         star.set(1, 3);
         planned(star, 30, 10007);
 
+        // The least miles count ahead of the fewest meetings: 104 and 305 would be two, of 8 miles.
+        planned(wont(with(homes(1, 0, 1, 1, 0, 0, 1, 0, 0, 0, 0, 1), 1, 4, 5, 0, 2, 3), 0, 2), 6, 103, 405, 304);
+
         says(14, "BAD: also i below -2; NONE.");
         for (int i = -3; i > -40; i--) due("plan(" + i + ")", five().plan(i), BAD);
         refused("plan(-3)", y -> y.plan(-3), BAD);
